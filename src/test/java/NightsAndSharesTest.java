@@ -34,11 +34,15 @@ public final class NightsAndSharesTest {
         due("13: as it goes, house 0", x.told(6), zero);
         due("13: as it goes, house 1", x.told(7), one);
         due("13: what was seen stays", x.on(0, 0), zero);
+        due("13: up two nights on", x.on(2, 2), 1);
+        due("13: up three nights on", x.on(3, 2), 2);
+        x.pass(1);
+        due("13: up two nights on from the next", x.on(2, 2), 2);
         due("13: what 3", x.on(61, 3), -1);
         due("13: what -1", x.on(0, -1), -1);
         due("13: n 61", x.on(61, 0), -2);
         due("13: n -1", x.on(-1, 2), -2);
-        Check.pass(x, 9999 - 60);
+        Check.pass(x, 9999 - 61);
         x.hide(1, true);
         due("13: beyond 9999", x.on(60, 2), 1);
         due("13: house 1 beyond 9999", x.on(2, 1) - x.told(7), 0);
@@ -103,6 +107,10 @@ public final class NightsAndSharesTest {
         due("15: 30 is too early, 900 is not too far", z.meet(0, 1), 900);
         z.set(1, 1, 27);
         due("15: 60 is too early, 930 too far", z.meet(0, 1), -5);
+        z.set(0, 1, 29);
+        due("15: 31 is too early, 901 too far", z.meet(0, 1), -5);
+        z.pass(1);
+        due("15: a night later it is 900", z.meet(0, 1), 900);
     }
 
     private static StarCustody dealt() {

@@ -149,6 +149,7 @@ public final class NotesAndOddsTest {
         odds(x, 1, 4, 10, 9, 13);
         odds(x, 1, 4, 5, 12, 13);
         odds(x, 0, 60, 9999, 0, 1);
+        odds(x, 0, 1, 6, 0, 1);
         due("22: nothing changed", x.told(2) * 100 + x.told(0), 300);
         due("22: house 2", x.odds(2, 0, 0, 0), Long.MIN_VALUE);
         due("22: house -1", x.odds(-1, 0, 0, 0), Long.MIN_VALUE);

@@ -96,6 +96,7 @@ public final class PlansAndBooksTest {
         x.pass(1);
         due("27: from now", x.looked(), 0);
         x.book(-1, 0);
+        due("27: without rows again", x.looked(), -5);
         x.book(59, 0);
         x.book(58, 0);
         due("27: again", x.looked(), 1);

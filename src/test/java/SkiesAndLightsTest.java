@@ -13,6 +13,7 @@ public final class SkiesAndLightsTest {
         promise6Tests();
         promise7();
         promise8();
+        promise8Each();
         promise9();
         promise10();
         promise11();
@@ -284,6 +285,12 @@ public final class SkiesAndLightsTest {
         holds("(p=0|p=1)&p=1", 0, 0, 0, 0);
         holds("p=1|p=0&p=1|p=0", 0, 0, 0, 1);
         holds("!p=1&p=1", 0, 0, 0, 0);
+        holds("p=1|p=1", 0, 0, 0, 0);
+        holds("p=0&v<9", 0, 0, 0, 1);
+        holds("p=1&v<9", 0, 0, 0, 0);
+        holds("p=1|v<9", 0, 0, 0, 1);
+        holds("p=0&v>3", 0, 0, 0, 1);
+        holds("p=0|v>9", 0, 0, 0, 1);
         holds("!p=0|p=0", 0, 0, 0, 1);
         holds("!(p=1&p=1)", 0, 0, 0, 1);
         holds("!!p=0", 0, 0, 0, 1);
@@ -353,6 +360,22 @@ public final class SkiesAndLightsTest {
         due("8: another kind", x.row(0, 0, 5), -3);
         due("8: nothing changed", x.row(1, 0, 0), 4);
         due("8: back to 0", x.worth(1, 0, 0), 2);
+    }
+
+    private static void promise8Each() {
+        StarCustody x = new StarCustody();
+        for (int light = 0; light < 6; light++) {
+            x.light(6, 0, 1, 0);
+            for (int k = 0; k < 4; k++) {
+                due("8: new row of " + light, x.row(light, k, light + k), 0);
+            }
+        }
+        for (int light = 0; light < 6; light++) {
+            for (int k = 0; k < 4; k++) {
+                due("8: worth of " + light + " on " + k, x.worth(light, 1, 8 + k), light + k);
+                due("8: row of " + light, x.row(light, k, 0), light + k);
+            }
+        }
     }
 
     private static void promise9() {
