@@ -30,7 +30,7 @@ public final class StarCustody {
         if (!isIn(sign, 0, 127)) {
             return BAD;
         }
-        return now.tape.isFull() ? FULL : now.tape.add(sign, 0, 0);
+        return now.tape.isFull() ? FULL : now.tape.tell(sign);
     }
 
     public int sky() {
@@ -563,7 +563,7 @@ public final class StarCustody {
         System.arraycopy(from, 0, to, 0, Math.min(from.length, to.length));
     }
 
-    /** Rows of up to three numbers; what comes beyond the most is counted, not kept. */
+    /** Rows of one number, or of three. */
     private static final class Rows {
         final int[] cells;
         final int most;
@@ -580,16 +580,20 @@ public final class StarCustody {
             return count >= most;
         }
 
-        int add(int first, int second, int third) {
-            if (!isFull()) {
-                put(cells, count * width, first);
-                if (width > 1) {
-                    put(cells, count * width + 1, second);
-                }
-                if (width > 2) {
-                    put(cells, count * width + 2, third);
-                }
+        /** A row of one number comes; beyond the most it is counted, not kept. */
+        int tell(int number) {
+            if (count >= 0 && count < cells.length) {
+                cells[count] = number;
             }
+            count++;
+            return count;
+        }
+
+        /** A row of three numbers comes. */
+        int add(int first, int second, int third) {
+            put(cells, count * width, first);
+            put(cells, count * width + 1, second);
+            put(cells, count * width + 2, third);
             count++;
             return count;
         }
@@ -623,8 +627,8 @@ public final class StarCustody {
         final Sky sky = new Sky();
         final Rows tape = new Rows(MOST_SIGNS, 1);
         final Rows notes = new Rows(MOST_NOTES, 3);
-        final Rows plans = new Rows(MOST_ROWS, 2);
-        final Rows books = new Rows(MOST_ROWS, 2);
+        final Rows plans = new Rows(MOST_ROWS, 3);
+        final Rows books = new Rows(MOST_ROWS, 3);
 
         void become(Roof other) {
             night = other.night;
@@ -777,6 +781,7 @@ public final class StarCustody {
         final Rows tape;
         final Sky sky = new Sky();
         int place = 0;
+        int next = END;
         int fault = NO_FAULT;
 
         SkyReader(Rows tape) {
@@ -786,30 +791,32 @@ public final class StarCustody {
         /** The fault's place, or NO_FAULT: then the sky is read. */
         int read() {
             sky.empty();
-            place = 0;
             fault = NO_FAULT;
+            goTo(0);
             readClause();
-            for (int n = 1; n < MOST_CLAUSES && next() == ';'; n++) {
-                place++;
+            for (int n = 1; n < MOST_CLAUSES && next == ';'; n++) {
+                goTo(place + 1);
                 readClause();
             }
-            if (place < tape.count) {
+            if (next != END) {
                 fail();
             }
             return fault;
         }
 
-        int next() {
-            return fault == NO_FAULT && place < tape.count ? tape.cell(place, 0) : END;
+        void goTo(int sign) {
+            place = sign;
+            next = place < tape.count ? at(tape.cells, place) : END;
         }
 
         void fail() {
             fault = fault == NO_FAULT ? place : fault;
+            next = END;
         }
 
         void take(int sign) {
-            if (next() == sign) {
-                place++;
+            if (next == sign) {
+                goTo(place + 1);
             } else {
                 fail();
             }
@@ -821,26 +828,22 @@ public final class StarCustody {
             }
         }
 
-        boolean isDigitNext() {
-            return next() >= '0' && next() <= '9';
-        }
-
         int takeNumber() {
-            if (!isDigitNext()) {
+            if (next < '0' || next > '9') {
                 fail();
                 return 0;
             }
-            int number = next() - '0';
-            place++;
-            if (number != 0 && isDigitNext()) {
-                number = number * 10 + next() - '0';
-                place++;
+            int number = next - '0';
+            goTo(place + 1);
+            if (number != 0 && next >= '0' && next <= '9') {
+                number = number * 10 + next - '0';
+                goTo(place + 1);
             }
             return number;
         }
 
         void readClause() {
-            switch (next()) {
+            switch (next) {
                 case 't':
                     takeWord("turn ");
                     sky.turn = Math.max(takeNumber(), 1);
@@ -850,28 +853,25 @@ public final class StarCustody {
                     sky.cloud = takeNumber();
                     break;
                 case 'd':
-                    place++;
-                    readWish();
+                    goTo(place + 1);
+                    boolean isDim = next == 'i';
+                    takeWord(isDim ? "im " : "ear ");
+                    int number = takeNumber();
+                    take(' ');
+                    readEither(0);
+                    sky.add(isDim ? Sky.DIM : Sky.DEAR, 0, number);
                     break;
                 default:
                     fail();
             }
         }
 
-        /** What is behind the d of dear or dim. */
-        void readWish() {
-            boolean isDim = next() == 'i';
-            takeWord(isDim ? "im " : "ear ");
-            int number = takeNumber();
-            take(' ');
-            readEither(0);
-            sky.add(isDim ? Sky.DIM : Sky.DEAR, 0, number);
-        }
+        // open tells how many of ! and ( are open
 
         private void readEither(int open) {
             readBoth(open);
-            for (int n = 0; n < MOST_SIGNS && next() == '|'; n++) {
-                place++;
+            for (int n = 0; n < MOST_SIGNS && next == '|'; n++) {
+                goTo(place + 1);
                 readBoth(open);
                 sky.add(Sky.OR, 0, 0);
             }
@@ -879,40 +879,39 @@ public final class StarCustody {
 
         private void readBoth(int open) {
             readFactor(open);
-            for (int n = 0; n < MOST_SIGNS && next() == '&'; n++) {
-                place++;
+            for (int n = 0; n < MOST_SIGNS && next == '&'; n++) {
+                goTo(place + 1);
                 readFactor(open);
                 sky.add(Sky.AND, 0, 0);
             }
         }
 
         private void readFactor(int open) {
-            int sign = next();
-            if (sign != '!' && sign != '(') {
+            if (next != '!' && next != '(') {
                 readTest();
             } else if (open >= MOST_OPEN) {
                 fail();
-            } else if (sign == '!') {
-                place++;
+            } else if (next == '!') {
+                goTo(place + 1);
                 readFactor(open + 1);
                 sky.add(Sky.NOT, 0, 0);
             } else {
-                place++;
+                goTo(place + 1);
                 readEither(open + 1);
                 take(')');
             }
         }
 
         private void readTest() {
-            int sign = next();
+            int sign = next;
             switch (sign) {
                 case 'p': case 'k': case 'v': case 'h': case 'n': case 'm':
-                    place++;
+                    goTo(place + 1);
                     break;
                 default:
                     fail();
             }
-            int step = next() == '<' ? Sky.LESS : next() == '>' ? Sky.MORE : Sky.SAME;
+            int step = next == '<' ? Sky.LESS : next == '>' ? Sky.MORE : Sky.SAME;
             take(step == Sky.LESS ? '<' : step == Sky.MORE ? '>' : '=');
             sky.add(step, sign, takeNumber());
         }
@@ -940,22 +939,18 @@ public final class StarCustody {
             return 5 + base;
         }
 
-        final void begin(int body) {
-            trace.add(body, 0, 0);
-        }
-
         int glows(int x) {
-            begin(1);
+            trace.tell(1);
             return x + number;
         }
 
         int claims(int x) {
-            begin(2);
+            trace.tell(2);
             return glows(x) - v;
         }
 
         int tells(int x) {
-            begin(3);
+            trace.tell(3);
             return claims(x) * 2;
         }
     }
@@ -974,7 +969,7 @@ public final class StarCustody {
         }
 
         int glows(int x) {
-            begin(11);
+            trace.tell(11);
             return super.glows(x * 3);
         }
     }
@@ -989,7 +984,7 @@ public final class StarCustody {
         }
 
         int claims(int x) {
-            begin(21);
+            trace.tell(21);
             return -super.claims(x);
         }
     }
@@ -1004,7 +999,7 @@ public final class StarCustody {
         }
 
         int tells(int x) {
-            begin(31);
+            trace.tell(31);
             return super.tells(x) ^ 7;
         }
     }
@@ -1023,7 +1018,7 @@ public final class StarCustody {
         }
 
         int tells(int x) {
-            begin(41);
+            trace.tell(41);
             return super.tells(x - 1) + glows(2);
         }
     }
@@ -1042,7 +1037,7 @@ public final class StarCustody {
         }
 
         int glows(int x) {
-            begin(51);
+            trace.tell(51);
             return super.glows(x) ^ number;
         }
     }
@@ -1057,7 +1052,7 @@ public final class StarCustody {
         }
 
         int claims(int x) {
-            begin(61);
+            trace.tell(61);
             return super.claims(x) + v;
         }
     }

@@ -33,14 +33,19 @@ public final class AgainstOracleTest {
         return least + random.nextInt(most - least + 1);
     }
 
-    /** Mostly least .. most, now and then outside. */
+    /** Mostly least .. most, now and then outside, near or far. */
     private int about(int least, int most) {
-        return any(0, 19) == 0 ? any(least - 2, most + 2) : any(least, most);
+        switch (any(0, 39)) {
+            case 0: return any(least - 2, most + 2);
+            case 1: return random.nextBoolean() ? least - 1 : most + 1;
+            case 2: return new int[] {Integer.MIN_VALUE, Integer.MAX_VALUE, random.nextInt()}[any(0, 2)];
+            default: return any(least, most);
+        }
     }
 
     private int aLight() {
         int lights = x.count(0);
-        return any(0, 24) == 0 || lights == 0 ? any(-2, 7) : any(0, lights - 1);
+        return about(0, Math.max(lights - 1, 0));
     }
 
     private void goSky() {
@@ -204,7 +209,7 @@ public final class AgainstOracleTest {
 
     private int turnThen(int n) {
         int turn = y.told(1);
-        return n < 0 ? 0 : (y.told(0) + n) / turn % 2;
+        return n < 0 || n > 60 ? 0 : (y.told(0) + n) / turn % 2;
     }
 
     private void ask(int which) {
@@ -214,7 +219,7 @@ public final class AgainstOracleTest {
         int n = any(0, 2) == 0 ? about(0, 60) : any(0, 10);
         int what = about(0, 9);
         switch (which) {
-            case 12: due("of " + p + " " + what, x.of(p, what % 7), y.of(p, what % 7)); break;
+            case 12: due("of " + p + " " + what / 2, x.of(p, what / 2), y.of(p, what / 2)); break;
             case 13: due("base " + p + " " + house + " " + n, x.base(p, house, n), y.base(p, house, n)); break;
             case 14: case 15: due("worth " + p + " " + house + " " + n, x.worth(p, house, n), y.worth(p, house, n)); break;
             case 16: case 17: due("told " + what, x.told(what), y.told(what)); break;
