@@ -135,11 +135,15 @@ public final class ActsAndImageTest {
         x.image();
         x.row(0, 1, 8);
         x.light(6, 2, 5, 0);
-        x.row(1, 2, 7);
+        for (int k = 0; k < 4; k++) {
+            x.row(1, k, 7);
+        }
         x.hide(1, true);
         due("32: undone", x.undo(), 1);
         due("32: a new one", x.light(6, 9, 5, 0), 1);
-        due("32: has its own row", x.row(1, 2, 0), 0);
+        for (int k = 0; k < 4; k++) {
+            due("32: has its own row, at " + k, x.row(1, k, 0), 0);
+        }
         due("32: is not hidden", x.of(1, 4), 0);
         due("32: the row is as it was", x.row(0, 1, 0), 3);
         x.act(0, 1, 4);

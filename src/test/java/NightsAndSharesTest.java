@@ -160,6 +160,9 @@ public final class NightsAndSharesTest {
         z.light(0, 0, 1, 0);
         due("16: clouded nights are worth nothing", z.deal(4, 1, 2), 5);
         due("16: and go to house 0", z.deal(4, 1, 0), 1);
+        StarCustody u = Check.under("dear 4 h=1");
+        u.light(0, 0, 1, 0);
+        due("16: a lesser of 0 both ways, both is more by house 1", u.deal(1, 1, 0), 1);
         StarCustody w = Check.under("turn 9;dear 3 n=0");
         w.light(0, 0, 1, 0);
         due("16: of several even ones both have more", w.deal(3, 1, 0), 1);

@@ -86,6 +86,10 @@ public final class SkiesAndLightsTest {
         fault("turn 1 ", 6);
         fault("turn 1 p=1", 6);
         fault("turn 1;", 7);
+        fault("turn 1" + (char) 0, 6);
+        fault("turn 1" + (char) 1, 6);
+        fault("turn 1" + (char) 127, 6);
+        fault("dear 1 p=1" + (char) 0 + "p=1", 10);
         fault("turn 1;;turn 1", 7);
         fault("clouds 1", 5);
         fault("cloud 9|", 7);
