@@ -461,12 +461,13 @@ public final class StarCustody {
         return sum;
     }
 
+    /** What a light is worth to a house in a month; shares put clouds and turns aside. */
     private int monthOf(int light, int house) {
         Star one = now.starAt(light);
         int sum = 0;
         for (int k = 0; k < MONTH && one != null; k++) {
             int night = now.night + k;
-            if (!isClouded(night, now.sky.cloud) && now.isUp(light, night, now.hidden)) {
+            if (now.isUp(light, night, now.hidden)) {
                 sum += now.worthOf(one, house, night);
             }
         }

@@ -198,15 +198,40 @@ public final class NightsAndSharesTest {
         due("17: the comet comes in the last of 28 nights", y.shares(0), -5);
     }
 
-    /** Turns do not count for a share, and a clouded night counts for none. */
+    /** Neither turns nor clouds make a difference to a share. */
     private static void promise17Clouds() {
         StarCustody x = Check.under("turn 9;cloud 2");
         x.light(0, 0, 2, 0);
         x.light(0, 0, 2, 1);
-        due("17: what comes on clouded nights is worth nothing", x.shares(0), -5);
+        due("17: what comes on clouded nights alone is worth as much", x.shares(0), 1);
+        due("17: turns and clouds aside, greatest", x.shares(1), 0);
+        due("17: a mean counts no clouded night", x.mean(0, 0), 5);
+        due("17: a mean is halved by clouds", x.mean(0, 1), 2);
         StarCustody y = Check.under("turn 28");
         y.light(0, 0, 2, 0);
         y.light(0, 0, 2, 1);
         due("17: turns aside", y.shares(0), 1);
+        StarCustody z = Check.under("cloud 1;dear 9 h=1&p=1");
+        z.light(0, 0, 1, 0);
+        z.light(0, 0, 1, 0);
+        due("17: all nights clouded, light 1 is envied", z.shares(0), 2);
+        due("17: all nights clouded, greatest", z.shares(1), 2);
+        due("17: all nights clouded have nothing", z.told(8) + z.told(9), 0);
+        z.hide(1, true);
+        due("17: hidden ones are worth nothing under clouds too", z.shares(0), -5);
+        due("17: hidden ones are worth nothing, greatest", z.shares(1), 0);
+        promise17LateClouds();
+    }
+
+    /** The rarest cloud, on night 98, is aside as the common ones are. */
+    private static void promise17LateClouds() {
+        StarCustody x = Check.under("cloud 99;dear 1 h=0&p=0");
+        x.light(0, 0, 30, 22);
+        x.light(0, 0, 30, 21);
+        Check.pass(x, 97);
+        due("17: light 0 comes on the clouded night", x.when(0), 1);
+        due("17: light 1 on the next", x.when(1), 2);
+        due("17: a clouded night of 28 counts as the others", x.shares(0), 2);
+        due("17: to the one to whom it is worth more", x.shares(1), 0);
     }
 }

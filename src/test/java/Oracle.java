@@ -471,7 +471,7 @@ final class Oracle {
         int[][] months = new int[2][lamps.size()];
         for (int at = night; at < night + 28; at++) {
             for (int p = 0; p < lamps.size(); p++) {
-                if (up(p, at) && !clouded(at, cloud())) {
+                if (up(p, at)) {
                     months[0][p] += worthAt(p, 0, at);
                     months[1][p] += worthAt(p, 1, at);
                 }
