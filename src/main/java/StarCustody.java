@@ -658,11 +658,6 @@ public final class StarCustody {
             stars[place] = one;
             put(rounds, place, round);
             put(phases, place, phase);
-            hidden = withBit(hidden, place, false);
-            // undo may have left the numbers of a light that is gone
-            for (int k = 0; k < ROW_SIZE; k++) {
-                put(rows, place * ROW_SIZE + k, 0);
-            }
             lights++;
         }
 
