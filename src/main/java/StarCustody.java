@@ -572,9 +572,9 @@ public final class StarCustody {
         int count = 0;
 
         Rows(int most, int width) {
-            this.most = Math.max(most, 0);
-            this.width = Math.max(width, 1);
-            this.cells = new int[this.most * this.width];
+            this.most = most;
+            this.width = width;
+            this.cells = new int[Math.max(most * width, 0)];
         }
 
         boolean isFull() {

@@ -1,8 +1,6 @@
-import java.util.Random;
-
 /** Long mixed runs of calls, each answer compared with the oracle's; the same runs each time. */
 public final class AgainstOracleTest {
-    private final Random random;
+    private long state;
     private final int run;
     private final StarCustody x = new StarCustody();
     private final Oracle y = new Oracle();
@@ -10,7 +8,7 @@ public final class AgainstOracleTest {
 
     private AgainstOracleTest(int run) {
         this.run = run;
-        this.random = new Random(run);
+        this.state = run * 7919L;
     }
 
     public static void main(String[] args) {
@@ -29,16 +27,22 @@ public final class AgainstOracleTest {
         Check.due("run " + run + ", call " + calls + ": " + what, got, want);
     }
 
+    /** A number that depends on the run and on the calls of this alone: the runs are the same each time. */
+    private int next() {
+        state = state * 6364136223846793005L + 1442695040888963407L;
+        return (int) (state >>> 32);
+    }
+
     private int any(int least, int most) {
-        return least + random.nextInt(most - least + 1);
+        return least + Math.floorMod(next() >>> 3, most - least + 1);
     }
 
     /** Mostly least .. most, now and then outside, near or far. */
     private int about(int least, int most) {
         switch (any(0, 39)) {
             case 0: return any(least - 2, most + 2);
-            case 1: return random.nextBoolean() ? least - 1 : most + 1;
-            case 2: return new int[] {Integer.MIN_VALUE, Integer.MAX_VALUE, random.nextInt()}[any(0, 2)];
+            case 1: return any(0, 1) == 0 ? least - 1 : most + 1;
+            case 2: return new int[] {Integer.MIN_VALUE, Integer.MAX_VALUE, next()}[any(0, 2)];
             default: return any(least, most);
         }
     }
@@ -153,7 +157,7 @@ public final class AgainstOracleTest {
         int p = aLight();
         int k = about(0, 3);
         int n = about(0, 9);
-        boolean is = random.nextBoolean();
+        boolean is = any(0, 1) == 0;
         switch (which) {
             case 0:
                 if (any(0, 5) == 0) {
@@ -258,7 +262,7 @@ public final class AgainstOracleTest {
             case 30: due("done " + house, x.done(house), y.done(house)); break;
             case 31: due("looked", x.looked(), y.looked()); break;
             case 32:
-                int arg = any(0, 1) == 0 ? any(-20, 20) : random.nextInt();
+                int arg = any(0, 1) == 0 ? any(-20, 20) : next();
                 due("act " + p + " " + act + " " + arg, x.act(p, act, arg), y.act(p, act, arg));
                 break;
             case 33: due("trace " + i, x.trace(i), y.trace(i)); break;
